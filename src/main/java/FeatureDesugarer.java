@@ -1083,7 +1083,7 @@ public final class FeatureDesugarer {
             // A long, since the least number has no opposite among the ints.
             long rest = number < 0 ? -(long) number : number;
             int digits = 1;
-            for (long least = 10; least <= rest; least *= 10) {
+            for (long least = 10; digits < 10 && least <= rest; least *= 10) {
                 digits++;
             }
             int sign = number < 0 ? 1 : 0;

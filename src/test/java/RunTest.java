@@ -4,6 +4,7 @@ public final class RunTest {
         exceptions();
         words();
         functionValues();
+        freshLocals();
         texts();
         wrongKinds();
         wrongValues();
@@ -92,6 +93,52 @@ public final class RunTest {
         Due.run("one in the other", x, Due.call(h, 0, 0, 0), 0, 13 + 2 * (4 + 7), 30, 1, "7a8b57a8b6");
     }
 
+    /** Locals behind the parameters are 0 at first, whatever was popped, kept or stored before. */
+    private static void freshLocals() {
+        String[] said = {"0000", "6000", "6600", "6660"};
+        for (int parameters = 0; parameters <= 3; parameters++) {
+            for (int own = -1; own <= parameters; own++) {
+                FeatureDesugarer x = tellers();
+                int f = x.function(0);
+                Due.write(x, f, Due.NUMBER, 7, 0, Due.TWICE, 0, 0, Due.TWICE, 0, 0, Due.TWICE, 0, 0, Due.JOIN, 0, 0,
+                        Due.NUMBER, 9, 0, Due.FUNCTION, 1, 1);
+                for (int turn = 0; turn < 2; turn++) {
+                    applyOrCall(x, f, parameters, own);
+                }
+                x.code(f, Due.RETURN, 0, 0);
+                x.lower();
+                Due.run("locals of " + parameters + " parameters, " + own + " of its own", x, Due.call(f, 0, 0, 0), 0,
+                        -1, 5, 1, said[parameters] + said[parameters]);
+            }
+        }
+    }
+
+    /** Functions of 0 .. 3 parameters: each says its first four locals, then spoils some. */
+    private static FeatureDesugarer tellers() {
+        FeatureDesugarer x = new FeatureDesugarer();
+        Due.recipe(x, "____");
+        for (int parameters = 0; parameters <= 3; parameters++) {
+            Due.function(x, parameters, Due.LOAD, 0, 0, Due.LOAD, 1, 0, Due.LOAD, 2, 0, Due.LOAD, 3, 0,
+                    Due.JOIN, 0, 0, Due.SAY, 0, 0, Due.NUMBER, 8, 0, Due.STORE, parameters, 0, Due.NUMBER, 8, 0,
+                    Due.STORE, 3, 0, Due.NUMBER, 5, 0, Due.RETURN, 0, 0);
+        }
+        return x;
+    }
+
+    /** Calls a teller with sixes, or, if own is not below 0, applies a function value of it. */
+    private static void applyOrCall(FeatureDesugarer x, int f, int parameters, int own) {
+        if (own == 0) {
+            x.code(f, Due.FUNCTION, parameters, 0);
+        }
+        for (int k = 0; k < parameters; k++) {
+            x.code(f, Due.NUMBER, 6, 0);
+            if (k + 1 == own) {
+                Due.write(x, f, Due.FUNCTION, parameters, own, Due.NUMBER, 9, 0, Due.FUNCTION, 1, 1, Due.DROP, 0, 0);
+            }
+        }
+        x.code(f, own < 0 ? Due.CALL : Due.APPLY, own < 0 ? parameters : parameters - own, 0);
+    }
+
     private static void texts() {
         FeatureDesugarer x = new FeatureDesugarer();
         Due.recipe(x, "x_y_z_");
@@ -158,6 +205,23 @@ public final class RunTest {
         Due.run("30 by APPLY", x, Due.call(1, 29, 0, 0), 0, 29 * 8 + 4, 9, 1, "");
         Due.run("31 by APPLY", x, Due.call(1, 30, 0, 0), 3, 30 * 7, 0, 0, "");
         Due.run("28 one behind the other", x, Due.call(2, 28, 0, 0), 0, 28 * 14 + 4, 0, 1, "");
+        depthBehindApply();
+    }
+
+    /** An APPLY that has ended leaves the depth as it was, of the first class and of others. */
+    private static void depthBehindApply() {
+        FeatureDesugarer x = new FeatureDesugarer();
+        for (int f = 0; f < 2; f++) {
+            Due.function(x, 1, Due.FUNCTION, 2, 0, Due.NUMBER, 0, 0, Due.APPLY, 1, 0, Due.DROP, 0, 0,
+                    Due.LOAD, 0, 0, Due.CALL, 2, 0, Due.RETURN, 0, 0);
+        }
+        Due.function(x, 1, Due.LOAD, 0, 0, Due.ZERO, 7, 0, Due.LOAD, 0, 0, Due.NUMBER, 1, 0, Due.LESS, 0, 0,
+                Due.CALL, 2, 0, Due.RETURN, 0, 0, Due.NUMBER, 9, 0, Due.RETURN, 0, 0);
+        x.lower();
+        for (int f = 0; f < 2; f++) {
+            Due.run("30 behind an APPLY", x, Due.call(f, 28, 0, 0), 0, 3 + 4 + 3 + 28 * 7 + 4 + 1, 9, 1, "");
+            Due.run("31 behind an APPLY", x, Due.call(f, 29, 0, 0), 3, 3 + 4 + 3 + 29 * 6, 0, 0, "");
+        }
     }
 
     private static void steps() {

@@ -4,9 +4,23 @@ final class Due {
             ZERO = 9, CALL = 10, RETURN = 11, SAY = 12, FUNCTION = 13, APPLY = 14, JOIN = 15;
     static final int NEW = 20, PUT = 21, INVOKE = 22, GET = 23, BEGIN = 24, CHARACTERS = 25, APPEND = 26;
 
+    private static final String[] WORDS = {"NUMBER", "LOAD", "STORE", "ADD", "LESS", "TIMES", "TWICE", "DROP", "GO",
+        "ZERO", "CALL", "RETURN", "SAY", "FUNCTION", "APPLY", "JOIN"};
+
     private static int wrong = 0;
+    private static String about = "";
 
     private Due() {
+    }
+
+    /** The document's sentence that the answers from here on are about. */
+    static void sentence(String words) {
+        about = "\"" + words + "\": ";
+    }
+
+    private static void tell(String text) {
+        wrong++;
+        System.out.println(about + text);
     }
 
     interface Call {
@@ -15,15 +29,13 @@ final class Due {
 
     static void answer(String call, long got, long want) {
         if (got != want) {
-            wrong++;
-            System.out.println(call + " answered " + got + ", due is " + want);
+            tell(call + " answered " + got + ", due is " + want);
         }
     }
 
     static void text(String call, String got, String want) {
         if (!got.equals(want)) {
-            wrong++;
-            System.out.println(call + " answered '" + got + "', due is '" + want + "'");
+            tell(call + " answered '" + got + "', due is '" + want + "'");
         }
     }
 
@@ -35,6 +47,20 @@ final class Due {
         thrown(what, call, "IllegalStateException");
     }
 
+    /** An illegal argument, behind which all is as before. */
+    static void refusedArgument(String what, FeatureDesugarer x, Call call) {
+        String before = whole(x);
+        argument(what, call);
+        text(what + ": all that can be asked behind it", whole(x), before);
+    }
+
+    /** An illegal state, behind which all is as before. */
+    static void refusedState(String what, FeatureDesugarer x, Call call) {
+        String before = whole(x);
+        state(what, call);
+        text(what + ": all that can be asked behind it", whole(x), before);
+    }
+
     private static void thrown(String what, Call call, String want) {
         String got;
         try {
@@ -43,8 +69,7 @@ final class Due {
             got = e.getClass().getSimpleName();
         }
         if (!got.equals(want)) {
-            wrong++;
-            System.out.println(what + " gave " + got + ", due is " + want);
+            tell(what + " gave " + got + ", due is " + want);
         }
     }
 
@@ -66,6 +91,27 @@ final class Due {
     static void write(FeatureDesugarer x, int f, int... instructions) {
         for (int k = 0; k < instructions.length; k += 3) {
             x.code(f, instructions[k], instructions[k + 1], instructions[k + 2]);
+        }
+    }
+
+    /** A function with instructions that are written with names: LOAD 0; TWICE * 3; FUNCTION 1 2; RETURN. */
+    static int written(FeatureDesugarer x, int parameters, String instructions) {
+        int f = x.function(parameters);
+        more(x, f, instructions);
+        return f;
+    }
+
+    /** Written instructions behind a function's others. */
+    static void more(FeatureDesugarer x, int f, String instructions) {
+        for (String one : instructions.split(";")) {
+            String[] times = one.split("\\*");
+            String[] parts = times[0].trim().split(" +");
+            int a = parts.length > 1 ? Integer.parseInt(parts[1]) : 0;
+            int b = parts.length > 2 ? Integer.parseInt(parts[2]) : 0;
+            int many = times.length > 1 ? Integer.parseInt(times[1].trim()) : 1;
+            for (int k = 0; k < many; k++) {
+                x.code(f, java.util.List.of(WORDS).indexOf(parts[0]), a, b);
+            }
         }
     }
 
@@ -97,6 +143,35 @@ final class Due {
         for (int i = 0; i < x.size(f, 1); i++) {
             text.append(i == 0 ? "" : "; ").append(x.plain(f, i, 0));
             text.append(' ').append(x.plain(f, i, 1)).append(' ').append(x.plain(f, i, 2));
+        }
+        return text.toString();
+    }
+
+    /** All that can be asked of an object without changing it. */
+    static String whole(FeatureDesugarer x) {
+        StringBuilder text = new StringBuilder();
+        text.append(x.count(0)).append(' ').append(x.count(1)).append(' ').append(x.check());
+        for (int f = 0; f < x.count(0); f++) {
+            text.append(' ').append(x.size(f, 0));
+        }
+        for (int what = 0; what < 4; what++) {
+            text.append(' ').append(x.told(what));
+        }
+        text.append(' ').append(output(x));
+        try {
+            x.count(2);
+        } catch (IllegalStateException e) {
+            return text.append(" not made").toString();
+        }
+        for (int f = 0; f < x.count(0); f++) {
+            text.append('\n').append(x.size(f, 2)).append(' ').append(x.size(f, 3)).append(": ").append(plain(x, f));
+        }
+        for (int cls = 0; cls < x.count(2); cls++) {
+            text.append('\n').append(x.made(cls, 0)).append(' ').append(x.made(cls, 1)).append(' ');
+            text.append(x.made(cls, 2));
+        }
+        for (int k = 0; k < x.count(3); k++) {
+            text.append(' ').append(x.character(k));
         }
         return text.toString();
     }

@@ -13,11 +13,11 @@ public final class WildTest {
                 int call = random.nextInt(16);
                 int[] numbers = {number(random), number(random), number(random), number(random)};
                 long characters = random.nextInt(3) == 0 ? random.nextLong() : random.nextInt(1 << random.nextInt(30));
-                String before = state(x);
+                String before = Due.whole(x);
                 try {
                     answer(x, call, numbers, characters, random.nextBoolean());
                 } catch (IllegalArgumentException | IllegalStateException e) {
-                    Due.text("seed " + seed + ": the state behind call " + call + " that threw", state(x), before);
+                    Due.text("seed " + seed + ": the state behind call " + call + " that threw", Due.whole(x), before);
                 } catch (RuntimeException e) {
                     Due.text("seed " + seed + ": call " + call, e.toString(), "an answer");
                 }
@@ -68,22 +68,5 @@ public final class WildTest {
         int f = x.function(n[0] & 3);
         Due.write(x, f, Due.NUMBER, n[1], 0, Due.SAY, 0, 0, Due.FUNCTION, f, 0, Due.RETURN, 0, 0);
         return x.lower();
-    }
-
-    private static String state(FeatureDesugarer x) {
-        StringBuilder text = new StringBuilder();
-        text.append(x.count(0)).append(' ').append(x.count(1)).append(' ').append(x.check());
-        for (int f = 0; f < x.count(0); f++) {
-            text.append(' ').append(x.size(f, 0));
-        }
-        try {
-            text.append(" made ").append(x.count(2)).append(' ').append(x.count(3));
-        } catch (IllegalStateException e) {
-            text.append(" not made");
-        }
-        for (int what = 0; what < 4; what++) {
-            text.append(' ').append(x.told(what));
-        }
-        return text.append(' ').append(Due.output(x)).toString();
     }
 }

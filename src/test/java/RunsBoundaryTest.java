@@ -6,6 +6,7 @@ public final class RunsBoundaryTest {
     public static void main(String[] args) {
         soManyOfTheseNumbers();
         steps();
+        stepsOfCodeMadeAnew();
         wrongKinds();
         rightKinds();
         wrongValues();
@@ -58,6 +59,21 @@ public final class RunsBoundaryTest {
         Due.run("a JOIN is one", x, Due.call(3, 8, 0, 0), 0, 4, 0, 2, "");
         Due.run("a method's LOADs are none", x, Due.call(4, 8, 0, 0), 0, 8, 8, 1, "");
         Due.run("what is gone over is none", x, Due.call(5, 0, 0, 0), 0, 4, 0, 1, "");
+    }
+
+    private static void stepsOfCodeMadeAnew() {
+        Due.sentence("of the plainer one, the first of each group (those of methods are none)");
+        FeatureDesugarer x = new FeatureDesugarer();
+        Due.recipe(x, "a_b_");
+        Due.written(x, 3, "LOAD 0; RETURN");
+        Due.written(x, 3, "LOAD 0; LOAD 1; LOAD 2; FUNCTION 0 3; APPLY 0; LOAD 1; JOIN 0; SAY; LOAD 2; RETURN");
+        x.lower();
+        // Each instruction in front moves the groups to where others' instructions stood before.
+        for (int turn = 0; turn < 38; turn++) {
+            Due.more(x, 0, turn % 7 == 6 ? "FUNCTION 1 1" : turn % 5 == 4 ? "JOIN 0" : "LOAD 0");
+            x.lower();
+            Due.run("made again, " + (turn + 1) + " behind", x, Due.call(1, 1, 2, 3), 0, 12, 3, 1, "a1b2");
+        }
     }
 
     /** A run of function 1, behind one with two parameters, must end so in both codes. */

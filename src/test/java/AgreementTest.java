@@ -1,6 +1,6 @@
 import java.util.Random;
 
-/** Promises 5, 6, 8, 9, 12, 13 and 14 on many programs: the class, and both codes, against the model. */
+/** Promises 5 to 14 on many programs: the class, and both codes, against the model. */
 public final class AgreementTest {
     private static final int PROGRAMS = 6000;
 
@@ -41,13 +41,33 @@ public final class AgreementTest {
     private void lowers(int seed) {
         int total = x.lower();
         int sum = 0;
+        int classes = 0;
         for (int f = 0; f < model.functions.size(); f++) {
             sum += x.size(f, 1);
+            Due.text("program " + seed + ": the plainer code of " + f, Due.plain(x, f), model.lowered(f, classes));
+            for (int[] i : model.functions.get(f)) {
+                if (i[0] == Due.FUNCTION) {
+                    hasClass("program " + seed, classes, i[1], i[2]);
+                    classes++;
+                }
+            }
             int[] greatest = model.greatestHeights(f);
             Due.answer("program " + seed + ": size(" + f + ", 2)", x.size(f, 2), greatest[0]);
             Due.answer("program " + seed + ": size(" + f + ", 3)", x.size(f, 3), greatest[1]);
         }
         Due.answer("program " + seed + ": lower()", total, sum);
+        Due.answer("program " + seed + ": count(2)", x.count(2), classes);
+        StringBuilder table = new StringBuilder();
+        for (int k = 0; k < x.count(3); k++) {
+            table.append((char) ('a' + x.character(k)));
+        }
+        Due.text("program " + seed + ": the table", table.toString(), model.table());
+    }
+
+    private void hasClass(String what, int cls, int function, int values) {
+        Due.answer(what + ": made(" + cls + ", 0)", x.made(cls, 0), values);
+        Due.answer(what + ": made(" + cls + ", 1)", x.made(cls, 1), function);
+        Due.answer(what + ": made(" + cls + ", 2)", x.made(cls, 2), model.parameters.get(function) + 2);
     }
 
     private int runs(String what, int f) {
@@ -117,6 +137,10 @@ public final class AgreementTest {
             }
             if (random.nextInt(300) == 0) {
                 a += random.nextInt(20) - 10;
+            }
+            if (word != Due.FUNCTION && random.nextInt(20) == 0) {
+                // A number b that the word does not have is not asked for.
+                b = random.nextInt();
             }
             add(f, word, a, b);
             height = Math.max(0, height + rise(word, a, b));

@@ -117,6 +117,69 @@ final class Model {
         return greatest;
     }
 
+    /** The plainer code of a function, each instruction written as word, a and b; classes go on from those so far. */
+    String lowered(int f, int classes) {
+        List<List<int[]>> groups = new ArrayList<>();
+        for (int[] i : functions.get(f)) {
+            groups.add(group(i, classes));
+            classes += i[0] == Due.FUNCTION ? 1 : 0;
+        }
+        List<String> all = new ArrayList<>();
+        for (List<int[]> group : groups) {
+            for (int[] i : group) {
+                boolean goes = i[0] == Due.GO || i[0] == Due.ZERO;
+                int a = goes ? groups.subList(0, i[1]).stream().mapToInt(List::size).sum() : i[1];
+                all.add(i[0] + " " + a + " " + i[2]);
+            }
+        }
+        return String.join("; ", all);
+    }
+
+    private List<int[]> group(int[] i, int cls) {
+        List<int[]> made = new ArrayList<>();
+        if (i[0] == Due.FUNCTION) {
+            made.add(new int[] {Due.NEW, cls, 0});
+            for (int k = 0; i[2] > 0 && k <= i[2]; k++) {
+                made.add(new int[] {Due.STORE, k == 0 ? 8 : 9 + i[2] - k, 0});
+            }
+            for (int k = 0; k < i[2]; k++) {
+                if (k == 0) {
+                    made.add(new int[] {Due.LOAD, 8, 0});
+                }
+                made.add(new int[] {Due.LOAD, 9 + k, 0});
+                made.add(new int[] {Due.PUT, k, 0});
+            }
+        } else if (i[0] == Due.JOIN) {
+            joinGroup(i[1], made);
+        } else {
+            made.add(new int[] {i[0] == Due.APPLY ? Due.INVOKE : i[0], i[1], 0});
+        }
+        return made;
+    }
+
+    private void joinGroup(int recipe, List<int[]> made) {
+        for (int k = holes(recipe); k > 0; k--) {
+            made.add(new int[] {Due.STORE, 7 + k, 0});
+        }
+        made.add(new int[] {Due.BEGIN, 0, 0});
+        int letter = table().length() - String.join("", recipes.subList(recipe, recipes.size())).replace("_", "").length();
+        int hole = 8;
+        for (String part : recipes.get(recipe).split("(?<=_)|(?=_)")) {
+            if (part.equals("_")) {
+                made.add(new int[] {Due.LOAD, hole++, 0});
+                made.add(new int[] {Due.APPEND, 0, 0});
+            } else {
+                made.add(new int[] {Due.CHARACTERS, letter, part.length()});
+                letter += part.length();
+            }
+        }
+    }
+
+    /** All recipes' letters. */
+    String table() {
+        return String.join("", recipes).replace("_", "");
+    }
+
     private boolean inBounds(int[] i, int length) {
         int a = i[1];
         if (i[0] == Due.LOAD || i[0] == Due.STORE) {
